@@ -13,6 +13,7 @@ final class Model {
   static final int NONE = -1;
 
   private static final class Fault extends RuntimeException {
+    private static final long serialVersionUID = 1L;
     final int kind;
     final int place;
 
