@@ -1111,7 +1111,8 @@ public final class PatternGate {
     }
 
     /** Whether each of the TRIPLES in one stretch stands in another one; both are in order. */
-    static boolean isWithin(int[] inner, int from, int to, int[] outer, int outerFrom, int outerTo) {
+    static boolean isWithin(int[] inner, int from, int to,
+        int[] outer, int outerFrom, int outerTo) {
       int at = outerFrom;
       for (int i = from; i < to; i++) {
         while (at < outerTo && outer[at] < inner[i]) {

@@ -294,6 +294,11 @@ public final class PromisesTest {
     t.faulty("  doc\n'a';", 1, 6);
     t.faulty("word", 2, 0);
     t.faulty("do \"a\";", 2, 0);
+    t.faulty("boc \"a\";", 2, 0);
+    t.faulty("dog \"a\";", 2, 0);
+    t.faulty("dxc \"a\";", 2, 0);
+    t.faulty("xattern \"a\";", 2, 0);
+    t.faulty("patterm \"a\";", 2, 0);
     t.faulty("doc", 2, 3);
     t.faulty("doc  ", 2, 5);
     t.faulty("pattern", 2, 7);
@@ -568,6 +573,9 @@ public final class PromisesTest {
     t.becomes("ab(cde)+f", "none", "cde");
     t.becomes("ab(cd|ce)f", "abcdf,abcef", "abc bcd cdf|abc bce cef");
     t.becomes("((abc))", "abc", "abc");
+    t.becomes("(((((abc)))))(((((d|e)))))", "abcd,abce", "abc bcd|abc bce");
+    t.becomes("(((((a|b)))))(((((c)))))d|x", "acd,bcd,x", "");
+    t.becomes("(((((abc)+))))(((((d)))))ef", "none", "abc def");
   }
 
   private static void needBothAndEither() {
@@ -792,6 +800,10 @@ public final class PromisesTest {
     t.fine("abc 2, bcd 1", x.rarest(3), triple("bcd"));
     t.fine("xyz 1, abc 2", x.rarest(4), triple("xyz"));
     t.refused("rarest(5)", x.rarest(5), 2);
+    String ten = docs("abcd", "abcd", "abcd", "abcd", "abcd", "abcd", "abcd", "abcd", "abcd", "bcdabc");
+    t.loaded(ten + patterns("bcd|abc"));
+    t.fine("each in all ten", x.rarest(0), triple("abc"));
+    t.refused("rarest(1)", x.rarest(1), 2);
     t.refused("rarest(-1)", x.rarest(-1), 2);
   }
 
