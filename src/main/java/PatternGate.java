@@ -646,17 +646,8 @@ public final class PatternGate {
     /** Puts the unlike TRIPLES into a row, the least first: how many they are. */
     static int sortTriples(int[] letters, int length, int[] into) {
       int many = 0;
-      for (int place = 0; place + 2 < length && many < into.length; place++) {
-        int triple = tripleAt(letters, place);
-        int at = many;
-        while (at > 0 && into[at - 1] > triple) {
-          at--;
-        }
-        if (at == 0 || into[at - 1] != triple) {
-          System.arraycopy(into, at, into, at + 1, many - at);
-          into[at] = triple;
-          many++;
-        }
+      for (int place = 0; place + 2 < length && place + 2 < letters.length; place++) {
+        many = Need.insert(into, many, tripleAt(letters, place));
       }
       return many;
     }
