@@ -1,13 +1,7 @@
 /** Promise by promise: ordinary inputs, the edges that the document names, wrong inputs. */
-public final class PromisesTest {
-  private static int wrong = 0;
-  private static int checked = 0;
-
-  private PatternGate x = new PatternGate();
-  private final int promise;
-
+public final class PromisesTest extends Checks {
   private PromisesTest(int promise) {
-    this.promise = promise;
+    super("promise " + promise);
   }
 
   public static void main(String[] args) {
@@ -48,119 +42,7 @@ public final class PromisesTest {
     back();
     would();
     best();
-    System.out.println("PromisesTest: " + checked + " checks, " + wrong + " wrong");
-    if (wrong != 0) System.exit(1);
-  }
-
-  // ---- helpers
-
-  private void due(String call, int got, int want) {
-    checked++;
-    if (got != want) {
-      wrong++;
-      System.out.println("promise " + promise + ": " + call + " answered " + got + ", due is " + want);
-    }
-  }
-
-  private void same(String call, String got, String want) {
-    checked++;
-    if (!got.equals(want)) {
-      wrong++;
-      System.out.println("promise " + promise + ": " + call + " gave " + got + ", due is " + want);
-    }
-  }
-
-  /** A call that is refused: NONE, with its STATUS. */
-  private void refused(String call, int got, int status) {
-    due(call, got, -1);
-    due("status() behind " + call, x.status(), status);
-  }
-
-  /** A call that is answered, with STATUS 0. */
-  private void fine(String call, int got, int want) {
-    due(call, got, want);
-    due("status() behind " + call, x.status(), 0);
-  }
-
-  private int tell(String text) {
-    StringBuilder padded = new StringBuilder(text);
-    while (padded.length() % 20 != 0) padded.append('#');
-    for (int i = 0; i < padded.length(); i += 20) {
-      int[] five = new int[5];
-      for (int k = 0; k < 20; k++) five[k / 4] = five[k / 4] << 8 | padded.charAt(i + k);
-      x.feed(five[0], five[1], five[2], five[3], five[4]);
-    }
-    return text.length();
-  }
-
-  private int loaded(String text) {
-    return x.load(tell(text));
-  }
-
-  private static String docs(String... texts) {
-    StringBuilder all = new StringBuilder();
-    for (String text : texts) all.append("doc \"").append(text).append("\";");
-    return all.toString();
-  }
-
-  private static String patterns(String... texts) {
-    StringBuilder all = new StringBuilder();
-    for (String text : texts) all.append("pattern \"").append(text).append("\";");
-    return all.toString();
-  }
-
-  private static int triple(String t) {
-    return (t.charAt(0) - 'a') * 676 + (t.charAt(1) - 'a') * 26 + t.charAt(2) - 'a';
-  }
-
-  private static String spelled(int t) {
-    return "" + (char) ('a' + t / 676) + (char) ('a' + t / 26 % 26) + (char) ('a' + t % 26);
-  }
-
-  private String text(int document) {
-    StringBuilder all = new StringBuilder();
-    for (int i = 0; x.letter(document, i) >= 0; i++) all.append((char) ('a' + x.letter(document, i)));
-    return all.toString();
-  }
-
-  private String allTexts() {
-    StringBuilder all = new StringBuilder();
-    for (int i = 0; i < x.many(0); i++) all.append(i == 0 ? "" : ",").append(text(i));
-    return all.toString();
-  }
-
-  private String signs(int pattern) {
-    StringBuilder all = new StringBuilder();
-    for (int i = 0; x.sign(pattern, i) >= 0; i++) all.append((char) x.sign(pattern, i));
-    return all.toString();
-  }
-
-  /** EXACT as rows with commas between them, or none. */
-  private String exactOf(int pattern) {
-    int rows = x.pattern(pattern, 3);
-    if (rows < 0) return "none";
-    StringBuilder all = new StringBuilder();
-    for (int i = 0; i < rows; i++) {
-      if (i > 0) all.append(',');
-      for (int k = 0; x.exact(pattern, i, k) >= 0; k++) all.append((char) ('a' + x.exact(pattern, i, k)));
-    }
-    return all.toString();
-  }
-
-  /** NEED as CHOICES with | between them, TRIPLES with blanks. */
-  private String needOf(int pattern) {
-    StringBuilder all = new StringBuilder();
-    for (int i = 0; i < x.pattern(pattern, 2); i++) {
-      if (i > 0) all.append('|');
-      for (int k = 0; x.need(pattern, i, k) >= 0; k++) {
-        all.append(k == 0 ? "" : " ").append(spelled(x.need(pattern, i, k)));
-      }
-    }
-    return all.toString();
-  }
-
-  private static String repeat(String text, int times) {
-    return text.repeat(times);
+    end("PromisesTest");
   }
 
   // ---- promises
@@ -278,13 +160,6 @@ public final class PromisesTest {
     t.due("fault(1)", x.fault(1), 0);
   }
 
-  private void faulty(String text, int kind, int place) {
-    String shown = text.length() > 50 ? text.substring(0, 50) + ".." : text;
-    refused("load of " + shown, loaded(text), 9);
-    due("fault(0) of " + shown, x.fault(0), kind);
-    due("fault(1) of " + shown, x.fault(1), place);
-  }
-
   private static void faultsOfTokens() {
     PromisesTest t = new PromisesTest(6);
     t.faulty("1", 1, 0);
@@ -335,10 +210,6 @@ public final class PromisesTest {
     t.faulty("doc \"" + repeat("a", 60) + "5", 1, 65);
     t.faulty("doc \"" + repeat("a", 60), 1, 65);
     t.fine("60 letters", t.loaded(docs(repeat("ab", 30))), 1);
-  }
-
-  private void faultyPattern(String text, int kind, int place) {
-    faulty("pattern \"" + text, kind, place + 9);
   }
 
   private static void faultsOfPatterns() {
@@ -476,16 +347,6 @@ public final class PromisesTest {
     t.refused("letter(-1, 0)", x.letter(-1, 0), 2);
   }
 
-  private void patternIs(String text, int spots, int empty, int fewest, int depth) {
-    x = new PatternGate();
-    loaded(patterns(text));
-    fine(text + ", bytes", x.pattern(0, 0), text.length());
-    fine(text + ", spots", x.pattern(0, 1), spots);
-    fine(text + ", empty", x.pattern(0, 4), empty);
-    fine(text + ", fewest", x.pattern(0, 5), fewest);
-    fine(text + ", depth", x.pattern(0, 7), depth);
-  }
-
   private static void pattern() {
     PromisesTest t = new PromisesTest(10);
     t.patternIs("a", 1, 0, 1, 3);
@@ -528,13 +389,6 @@ public final class PromisesTest {
     t.refused("sign(7, -1)", x.sign(7, -1), 1);
     t.refused("sign(2, 0)", x.sign(2, 0), 2);
     t.refused("sign(-1, 0)", x.sign(-1, 0), 2);
-  }
-
-  private void becomes(String text, String exact, String need) {
-    x = new PatternGate();
-    loaded(patterns(text));
-    same("EXACT of " + text, exactOf(0), exact);
-    same("NEED of " + text, needOf(0), need);
   }
 
   private static void exactAndNeed() {
@@ -696,15 +550,6 @@ public final class PromisesTest {
     t.refused("often(-1, 0)", x.often(-1, 0), 2);
   }
 
-  private void gateIs(String book, int candidates, int leaps, int fit, int wrongly) {
-    x = new PatternGate();
-    loaded(book);
-    fine(book + ", candidates", x.gate(0, 0), candidates);
-    fine(book + ", leaps", x.gate(0, 1), leaps);
-    fine(book + ", fit", x.gate(0, 2), fit);
-    fine(book + ", candidates that don't", x.gate(0, 3), wrongly);
-  }
-
   private static void gate() {
     PromisesTest t = new PromisesTest(16);
     t.gateIs(patterns("abc"), 0, 1, 0, 0);
@@ -726,20 +571,6 @@ public final class PromisesTest {
     x.put(2, 0, 25);
     t.fine("candidates behind put()", x.gate(0, 0), 11);
     t.fine("fit behind put()", x.gate(0, 2), 0);
-  }
-
-  private void matchIs(String pattern, String doc, int place, int letters, int matches) {
-    x = new PatternGate();
-    loaded(docs(doc) + patterns(pattern));
-    String both = pattern + " in " + doc;
-    if (place < 0) {
-      refused(both + ", place", x.match(0, 0, 0), 5);
-      refused(both + ", letters", x.match(0, 0, 1), 5);
-    } else {
-      fine(both + ", place", x.match(0, 0, 0), place);
-      fine(both + ", letters", x.match(0, 0, 1), letters);
-    }
-    fine(both + ", matches", x.match(0, 0, 2), matches);
   }
 
   private static void match() {
