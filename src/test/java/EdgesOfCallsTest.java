@@ -13,6 +13,15 @@ public final class EdgesOfCallsTest extends Checks {
 
   public static void main(String[] args) {
     EdgesOfCallsTest t = new EdgesOfCallsTest();
+    t.firstThatHolds();
+    t.numberThatCantBe();
+    t.noSuch();
+    t.oneTooMany();
+    t.isSo();
+    t.thereIsNone();
+    t.noLetterOrMoreThan60();
+    t.aFault();
+    t.allElse();
     t.whatARefusedCallLeaves();
     t.whatAFaultLeaves();
     t.callsWithoutStatus();
@@ -64,6 +73,182 @@ public final class EdgesOfCallsTest extends Checks {
   }
 
   // ---- ==== 4.
+
+  private void firstThatHolds() {
+    sentence("STATUS of a call is the first of these that holds:");
+    begin();
+    refused("1 ahead of 2, 5", x.letter(9, -1), 1);
+    refused("2 ahead of 5", x.letter(9, 99), 2);
+    refused("1 ahead of 2, 5", x.exact(9, 99, -1), 1);
+    refused("1 ahead of 4", x.put(0, -1, 0), 1);
+    refused("2 ahead of 4, 5", x.put(9, 99, 0), 2);
+    refused("1 ahead of 5, 6", x.cut(1, 3, 0), 1);
+    refused("5 ahead of 6", x.cut(1, 0, 4), 5);
+    refused("5 ahead of 6", x.let(2, 61, 0), 5);
+    refused("2 ahead of 6", x.let(9, 0, 0), 2);
+    x.more(tell(docsOf(7)));
+    refused("1 ahead of 2, 3, 5", x.copy(99, 99, 0), 1);
+    refused("2 ahead of 3, 5", x.copy(99, 99, 1), 2);
+    refused("3 ahead of 5", x.copy(0, 99, 1), 3);
+    tell("5");
+    refused("1 ahead of 9", x.load(21), 1);
+    refused("1 ahead of 9", x.more(-1), 1);
+    refused("then 9", x.more(1), 9);
+  }
+
+  private void numberThatCantBe() {
+    sentence("1 a number that can't be (below 0, too, of one that counts).");
+    begin();
+    refused("what", x.many(6), 1);
+    refused("what of a DOCUMENT", x.document(0, 4), 1);
+    refused("what of a PATTERN", x.pattern(0, 8), 1);
+    refused("what of a GATE", x.gate(0, 4), 1);
+    refused("what of a match", x.match(0, 0, 3), 1);
+    refused("a TRIPLE", x.list(17576, 0), 1);
+    refused("a TRIPLE", x.often(0, 17576), 1);
+    refused("a LETTER to put", x.put(0, 0, 26), 1);
+    refused("a LETTER to let in", x.let(0, 0, 26), 1);
+    refused("a LETTER on paper", x.would(0, 0, 26), 1);
+    refused("no LETTERS to cut", x.cut(0, 0, 0), 1);
+    refused("no LETTERS to copy", x.copy(0, 0, 0), 1);
+    refused("more bytes than there are", x.load(1), 1);
+    refused("bytes below 0", x.load(-1), 1);
+    refused("bytes below 0", x.more(-1), 1);
+    refused("a PLACE below 0", x.letter(0, -1), 1);
+    refused("a byte below 0", x.sign(0, -1), 1);
+    refused("a row below 0", x.exact(0, -1, 0), 1);
+    refused("a CHOICE below 0", x.need(0, -1, 0), 1);
+    refused("the i-th below 0", x.list(28, -1), 1);
+    refused("a PLACE below 0", x.alive(0, 0, -1), 1);
+    refused("a PLACE below 0", x.best(0, -1), 1);
+  }
+
+  private void noSuch() {
+    sentence("2 no such DOCUMENT, PATTERN.");
+    begin();
+    for (int i : new int[] {3, -1, MAX, MIN}) {
+      refused("document", x.document(i, 0), 2);
+      refused("letter", x.letter(i, 0), 2);
+      refused("often", x.often(i, 0), 2);
+      refused("match", x.match(0, i, 0), 2);
+      refused("alive", x.alive(0, i, 0), 2);
+      refused("put", x.put(i, 0, 0), 2);
+      refused("let", x.let(i, 0, 0), 2);
+      refused("cut", x.cut(i, 0, 1), 2);
+      refused("copy", x.copy(i, 0, 1), 2);
+      refused("drop", x.drop(i), 2);
+      refused("would", x.would(i, 0, 0), 2);
+      refused("best", x.best(i, 0), 2);
+      refused("pattern", x.pattern(i, 0), 2);
+      refused("sign", x.sign(i, 0), 2);
+      refused("exact", x.exact(i, 0, 0), 2);
+      refused("need", x.need(i, 0, 0), 2);
+      refused("gate", x.gate(i, 0), 2);
+      refused("match", x.match(i, 0, 0), 2);
+      refused("alive", x.alive(i, 0, 0), 2);
+      refused("rarest", x.rarest(i), 2);
+      refused("within", x.within(i, 0), 2);
+      refused("within", x.within(0, i), 2);
+      refused("forget", x.forget(i), 2);
+    }
+    fine("the last DOCUMENT", x.document(2, 0), 60);
+    fine("the last PATTERN", x.pattern(2, 0), 3);
+  }
+
+  private void oneTooMany() {
+    sentence("3 one too many.");
+    loaded(docsOf(9));
+    fine("the tenth", x.copy(0, 0, 1), 9);
+    refused("an eleventh", x.copy(0, 0, 1), 3);
+    for (int many = 1; many <= 3; many++) fine("mark()", x.mark(), many);
+    refused("a fourth", x.mark(), 3);
+  }
+
+  private void isSo() {
+    sentence("4 it is so.");
+    begin();
+    refused("it stands there", x.put(0, 0, 0), 4);
+    fine("another one", x.put(0, 0, 1), 0);
+    refused("now this one stands there", x.put(0, 0, 1), 4);
+    refused("at the last PLACE", x.put(2, 59, 1), 4);
+    fine("would() has no 4", x.would(0, 0, 1), 0);
+  }
+
+  private void thereIsNone() {
+    sentence("5 there is none.");
+    begin();
+    refused("LETTER", x.letter(0, 6), 5);
+    refused("byte", x.sign(0, 7), 5);
+    refused("row", x.exact(0, 2, 0), 5);
+    refused("LETTER of a row", x.exact(0, 0, 3), 5);
+    refused("CHOICE", x.need(0, 2, 0), 5);
+    refused("TRIPLE of a CHOICE", x.need(0, 0, 1), 5);
+    refused("DOCUMENT of a LIST", x.list(28, 1), 5);
+    refused("FIRST MATCH", x.match(2, 1, 0), 5);
+    refused("PLACE", x.alive(0, 0, 6), 5);
+    refused("TRIPLE of a PATTERN", x.rarest(1), 5);
+    refused("PLACE to put", x.put(0, 6, 0), 5);
+    refused("PLACE to let in", x.let(0, 7, 0), 5);
+    refused("LETTERS to cut", x.cut(0, 5, 2), 5);
+    refused("LETTERS to copy", x.copy(0, 5, 2), 5);
+    refused("PLACE on paper", x.would(0, 6, 0), 5);
+    refused("PLACE for the best", x.best(0, 6), 5);
+    refused("MARK", x.back(), 5);
+    x.undo();
+    refused("ACT", x.undo(), 5);
+  }
+
+  private void noLetterOrMoreThan60() {
+    sentence("6 it would have no LETTER, or more than 60.");
+    loaded(docs("a", "ab", repeat("a", 59), repeat("a", 60)));
+    refused("none of one", x.cut(0, 0, 1), 6);
+    refused("none of two", x.cut(1, 0, 2), 6);
+    refused("none of sixty", x.cut(3, 0, 60), 6);
+    fine("one of two", x.cut(1, 0, 1), 1);
+    fine("a 60th", x.let(2, 0, 0), 60);
+    refused("a 61st", x.let(2, 0, 0), 6);
+    refused("a 61st behind all", x.let(3, 60, 0), 6);
+  }
+
+  private void aFault() {
+    sentence("9 a FAULT.");
+    refused("load()", x.load(tell("5")), 9);
+    refused("more()", x.more(tell("5")), 9);
+    fine("without one", x.load(tell(" ")), 0);
+    fine("without one", x.more(tell(" ")), 0);
+  }
+
+  private void allElse() {
+    sentence("0 else.");
+    begin();
+    int[] got = {x.many(0), x.document(0, 0), x.letter(0, 0), x.pattern(0, 0), x.sign(0, 0), x.exact(0, 0, 0),
+        x.need(0, 0, 0), x.list(28, 0), x.often(0, 28), x.gate(0, 0), x.match(0, 0, 0), x.alive(0, 0, 0), x.rarest(0),
+        x.within(0, 0), x.would(0, 0, 1), x.best(0, 0)};
+    int[] due = {3, 6, 0, 7, 'a', 0, 28, 0, 1, 3, 0, 1, 28, 1, 0, 0};
+    for (int i = 0; i < due.length; i++) fine("question " + i, got[i], due[i]);
+    x.drop(9);
+    fine("put()", x.put(0, 0, 1), 0);
+    x.drop(9);
+    fine("let()", x.let(0, 0, 1), 7);
+    x.drop(9);
+    fine("cut()", x.cut(0, 0, 1), 6);
+    x.drop(9);
+    fine("copy()", x.copy(0, 0, 1), 3);
+    x.drop(9);
+    fine("drop()", x.drop(0), 3);
+    x.drop(9);
+    fine("forget()", x.forget(0), 2);
+    x.drop(9);
+    fine("undo()", x.undo(), 6);
+    x.drop(9);
+    fine("mark()", x.mark(), 1);
+    x.drop(9);
+    fine("back()", x.back(), 0);
+    x.drop(9);
+    fine("load()", x.load(0), 0);
+    x.drop(9);
+    fine("more()", x.more(0), 0);
+  }
 
   /** All that can be seen of an object, but for the tape and STATUS. */
   private String seen() {

@@ -36,6 +36,7 @@ public final class EdgesOfNeedsTest extends Checks {
     t.orderOfChoices();
     t.gateWithoutTriples();
     t.gateFromTheFirst();
+    t.roundAndRound();
     t.leap();
     t.over();
     t.agrees();
@@ -415,6 +416,20 @@ public final class EdgesOfNeedsTest extends Checks {
     gateIs(docs("cab", "cab") + patterns("cabc"), 0, 1, 0, 0);
     // anew for each CHOICE
     gateIs(docs("xyz", "abc") + patterns("abc|xyz"), 3, 4, 3, 0);
+  }
+
+  private void roundAndRound() {
+    sentence("again and again, from the first LIST on, LIST by LIST, round and round:");
+    // behind the last LIST comes the first one: abc 0, bcd 1, abc 2, bcd 3, abc 4, bcd has none
+    gateIs(docs(ABC, BCD, ABC, BCD, ABC) + patterns("abcd"), 0, 6, 0, 0);
+    // begun with abc, not with bcd: abc 1, bcd 2, abc 3, bcd 4, abc has none
+    gateIs(docs(BCD, ABC, BCD, ABC, BCD) + patterns("abcd"), 0, 5, 0, 0);
+    // three LISTS: abc 0, bcd 1, cde 2, abc 3, bcd 4, cde has none
+    gateIs(docs(ABC, BCD, "cdex", ABC, BCD, ABC) + patterns("abcde"), 0, 6, 0, 0);
+    // the other way round: abc 2, bcd 4, cde has none
+    gateIs(docs("cdex", BCD, ABC, "cdex", BCD) + patterns("abcde"), 0, 3, 0, 0);
+    // one LIST is behind itself
+    gateIs(docs(ABC, ABC, ABC) + patterns("abc"), 7, 4, 7, 0);
   }
 
   private void leap() {

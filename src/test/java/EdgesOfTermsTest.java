@@ -6,6 +6,8 @@ public final class EdgesOfTermsTest extends Checks {
 
   public static void main(String[] args) {
     EdgesOfTermsTest t = new EdgesOfTermsTest();
+    t.none();
+    t.keptThroughAllEdits();
     t.lastOf512Calls();
     t.letters();
     t.tenDocuments();
@@ -15,6 +17,7 @@ public final class EdgesOfTermsTest extends Checks {
     t.triples();
     t.lists();
     t.branchesAndItems();
+    t.anyNumberOfTimes();
     t.atoms();
     t.spots();
     t.nested();
@@ -45,6 +48,63 @@ public final class EdgesOfTermsTest extends Checks {
   }
 
   // ---- what it is
+
+  private void none() {
+    sentence("The constants: NONE = -1: None.");
+    due("NONE", PatternGate.NONE, -1);
+    due("a call that gives it", x.many(6), PatternGate.NONE);
+  }
+
+  /** LISTS, GATES and counts, of an object whose DOCUMENTS have a to d alone. */
+  private String allLists() {
+    StringBuilder all = new StringBuilder();
+    for (int what = 0; what < 4; what++) all.append(' ').append(x.many(what));
+    for (int t = 0; t < 64; t++) {
+      int triple = t / 16 * 676 + t / 4 % 4 * 26 + t % 4;
+      int document = x.list(triple, 0);
+      for (int i = 1; document >= 0; i++) {
+        all.append(' ').append(spelled(triple)).append(document);
+        document = x.list(triple, i);
+      }
+    }
+    int patterns = x.many(1);
+    for (int p = 0; p < patterns; p++) {
+      for (int what = 0; what < 4; what++) all.append(' ').append(x.gate(p, what));
+      all.append(' ').append(x.rarest(p));
+    }
+    return all.toString();
+  }
+
+  private void edit(int which) {
+    switch (which) {
+      case 0 -> loaded(docs("abcabd", "bcdabc", "aaa") + patterns("abc", "bcd|aaa", "a+b?"));
+      case 1 -> x.put(0, 2, 3);
+      case 2 -> x.let(0, 2, 2);
+      case 3 -> x.cut(1, 1, 2);
+      case 4 -> x.mark();
+      case 5 -> x.copy(0, 1, 4);
+      case 6 -> x.drop(0);
+      case 7 -> x.forget(1);
+      case 8 -> x.more(tell(docs("abcd", "bcda") + patterns("dab")));
+      case 9, 10, 11 -> x.undo();
+      case 12 -> x.cut(2, 0, 2);
+      case 13 -> x.back();
+      default -> x.load(tell(docs("bcd")));
+    }
+  }
+
+  private void keptThroughAllEdits() {
+    sentence("lists of documents by three letters, kept through all edits, gone through by leaps;");
+    for (int last = 0; last <= 14; last++) {
+      x = new PatternGate();
+      for (int which = 0; which <= last; which++) edit(which);
+      String edited = allLists();
+      String book = docs(allTexts().split(",")) + (x.many(1) == 0 ? "" : patterns(allSigns().split(",")));
+      x = new PatternGate();
+      loaded(book);
+      same("what there is behind edit " + last, edited, allLists());
+    }
+  }
 
   private void lastOf512Calls() {
     sentence("An object is used for at most 512 calls after it has been made");
@@ -177,6 +237,17 @@ public final class EdgesOfTermsTest extends Checks {
     faultyPattern("a**\";", 1, 2);
     faultyPattern("a?+\";", 1, 2);
     faultyPattern("(a)+*\";", 1, 4);
+  }
+
+  private void anyNumberOfTimes() {
+    sentence("({ } any number of times, [ ] here once or not, but for those of an ATOM.)");
+    fine("no more BRANCH, one, many", loaded(patterns("a", "a|b", repeat("a|", 23) + "b")), 0);
+    fine("as many as there are SPOTS", x.pattern(2, 1), 24);
+    fine("no more ITEM, one, many", loaded(patterns("a", "ab", repeat("a", 24))), 0);
+    fine("no SIGN, one", loaded(patterns("a", "a*", "a+b", "ab?")), 0);
+    fine("no LINE, one", loaded("") + loaded(docs("a")), 1);
+    faultyPattern("a*+\";", 1, 2);
+    faultyPattern("{a}\";", 1, 0);
   }
 
   private void atoms() {
@@ -335,7 +406,7 @@ public final class EdgesOfTermsTest extends Checks {
   private void eachByte(String ahead, String inQuote, String behindQuote, String two, String four) {
     int place = ahead.length();
     for (char sign = 0; sign < 256; sign++) {
-      if (sign % 100 == 0) x = new PatternGate();
+      if (sign % 25 == 0) x = new PatternGate();
       if (inQuote.indexOf(sign) >= 0) faulty(ahead + sign, 1, place + 1);
       else if (behindQuote.indexOf(sign) >= 0) faulty(ahead + sign, 2, place + 1);
       else if (two.indexOf(sign) >= 0) faulty(ahead + sign, 2, place);

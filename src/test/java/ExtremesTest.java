@@ -10,7 +10,7 @@ public final class ExtremesTest {
     10, 11, 25, 26, 59, 60, 61, 17575, 17576, Integer.MAX_VALUE - 1, Integer.MAX_VALUE};
   private static final int[] BYTES = {Integer.MIN_VALUE, -1, 0, 1, 19, 20, 21, 39, 40, 41, 899, 900, 901, Integer.MAX_VALUE};
   /** Fewer calls than an object is made for, with room for building it up. */
-  private static final int CALLS = 300;
+  private static final int CALLS = 340;
 
   private interface Call {
     int on(PatternGate gate, int a, int b, int c);
@@ -89,7 +89,7 @@ public final class ExtremesTest {
 
   private void same(String call, int got, int due) {
     made++;
-    calls++;
+    calls += 2;
     if (got != due || gate.status() != model.status()) {
       wrong++;
       System.out.println("state " + state + ": " + call + " answered " + got + " with " + gate.status() + ", due is " + due

@@ -2,7 +2,10 @@ import java.util.Random;
 
 /** Long runs of chance calls, the same ones each time, on PatternGate and on the plain model. */
 public final class ModelTest {
+  /** An object is used for at most so many calls. */
   private static final int CALLS = 512;
+  /** The most that one step takes: 45 times feed(), load(), four times fault(), each with status(). */
+  private static final int STEP = 110;
 
   private final Random chance;
   private final PatternGate gate = new PatternGate();
@@ -17,7 +20,7 @@ public final class ModelTest {
   }
 
   public static void main(String[] args) {
-    int runs = args.length > 0 ? Integer.parseInt(args[0]) : 400;
+    int runs = args.length > 0 ? Integer.parseInt(args[0]) : 900;
     int wrong = 0;
     for (int seed = 1; seed <= runs && wrong < 5; seed++) {
       ModelTest test = new ModelTest(seed);
@@ -34,7 +37,7 @@ public final class ModelTest {
   private String run() {
     reach = 2 + chance.nextInt(3);
     tell();
-    while (calls < CALLS - 60) {
+    while (calls < CALLS - STEP) {
       String fault = chance.nextInt(14) == 0 ? tell() : call();
       if (fault != null) return fault;
     }
@@ -152,7 +155,7 @@ public final class ModelTest {
   // ---- calls
 
   private String same(String call, int got, int due) {
-    calls++;
+    calls += 2;
     story.append(call).append(" = ").append(got).append('\n');
     if (got != due) return call + " answered " + got + ", due is " + due;
     if (gate.status() != model.status()) {
@@ -200,6 +203,7 @@ public final class ModelTest {
     int place = number(lengthOf(d));
     int what = number(4);
     // asking the model about bounds has changed its status: bring both to the same again
+    calls++;
     gate.many(0);
     model.many(0);
     switch (chance.nextInt(30)) {
@@ -239,7 +243,8 @@ public final class ModelTest {
 
   private String allNeeds(int p) {
     for (int i = 0; i < 13; i++) {
-      for (int k = 0; k < 25; k++) {
+      for (int k = 0; k < 25 && calls < CALLS - 10; k++) {
+        calls += 2;
         int got = gate.need(p, i, k);
         int due = model.need(p, i, k);
         String fault = got != due || gate.status() != model.status()
@@ -249,7 +254,8 @@ public final class ModelTest {
       }
     }
     for (int i = 0; i < 7; i++) {
-      for (int k = 0; k < 9; k++) {
+      for (int k = 0; k < 9 && calls < CALLS - 10; k++) {
+        calls++;
         int got = gate.exact(p, i, k);
         int due = model.exact(p, i, k);
         if (got != due) return same("exact(" + p + "," + i + "," + k + ")", got, due);
@@ -262,6 +268,7 @@ public final class ModelTest {
     int t = anyTriple();
     int letter = chance.nextInt(12) == 0 ? number(26) : small() - 'a';
     int span = chance.nextInt(4) == 0 ? number(lengthOf(d) + 1) : 1 + chance.nextInt(3);
+    calls++;
     gate.many(0);
     model.many(0);
     String at = "(" + d + "," + place + ",";

@@ -1,5 +1,6 @@
 import java.io.File;
 import java.io.IOException;
+import java.io.OutputStream;
 import java.nio.file.Files;
 import java.nio.file.Path;
 import java.util.ArrayList;
@@ -92,8 +93,8 @@ public final class Mutants {
     Path file = folder.resolve("PatternGate.java");
     Files.writeString(file, source.substring(0, mutant.from) + mutant.instead
         + source.substring(mutant.to));
-    int compiled = ToolProvider.getSystemJavaCompiler().run(null, OutputStreams.none(),
-        OutputStreams.none(), "-nowarn", "-d", folder.toString(), file.toString());
+    int compiled = ToolProvider.getSystemJavaCompiler().run(null, OutputStream.nullOutputStream(),
+        OutputStream.nullOutputStream(), "-nowarn", "-d", folder.toString(), file.toString());
     boolean seen = compiled != 0;
     for (int i = 0; i < tests.length && !seen; i++) seen = !passes(folder, tests[i]);
     remove(folder);
@@ -121,12 +122,6 @@ public final class Mutants {
   private static void remove(Path folder) throws IOException {
     try (Stream<Path> all = Files.walk(folder)) {
       for (Path path : all.sorted((a, b) -> b.compareTo(a)).toList()) Files.delete(path);
-    }
-  }
-
-  private static final class OutputStreams {
-    static java.io.OutputStream none() {
-      return java.io.OutputStream.nullOutputStream();
     }
   }
 }
