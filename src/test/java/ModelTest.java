@@ -8,15 +8,15 @@ public final class ModelTest {
   private static final int STEP = 110;
 
   private final Random chance;
+  private final ChanceTexts texts;
   private final PatternGate gate = new PatternGate();
   private final Model model = new Model();
   private final StringBuilder story = new StringBuilder();
   private int calls;
-  private int spotsLeft;
-  private int reach;
 
   private ModelTest(long seed) {
     chance = new Random(seed);
+    texts = new ChanceTexts(chance, 2 + chance.nextInt(3));
   }
 
   public static void main(String[] args) {
@@ -35,7 +35,6 @@ public final class ModelTest {
   }
 
   private String run() {
-    reach = 2 + chance.nextInt(3);
     tell();
     while (calls < CALLS - STEP) {
       String fault = chance.nextInt(14) == 0 ? tell() : call();
@@ -46,55 +45,12 @@ public final class ModelTest {
 
   // ---- texts
 
-  private char small() {
-    return (char) ('a' + (chance.nextInt(40) == 0 ? chance.nextInt(26) : chance.nextInt(reach)));
-  }
-
   private String doc() {
-    StringBuilder text = new StringBuilder();
-    int length = chance.nextInt(12) == 0 ? 55 + chance.nextInt(7) : 1 + chance.nextInt(20);
-    while (text.length() < length) text.append(small());
-    return text.toString();
+    return texts.doc(chance.nextInt(12) == 0 ? 55 + chance.nextInt(7) : 1 + chance.nextInt(20));
   }
 
-  private void atom(StringBuilder text, int deep) {
-    int kind = chance.nextInt(20);
-    if (kind < 3 + 2 * (deep < 2 ? 1 : 0) && deep < (chance.nextInt(30) == 0 ? 6 : 5)) {
-      text.append('(');
-      alternatives(text, deep + 1);
-      text.append(')');
-      return;
-    }
-    spotsLeft--;
-    if (kind == 19) {
-      text.append('.');
-    } else if (kind > 15) {
-      text.append('[');
-      int many = chance.nextInt(6) == 0 ? 7 : 1 + chance.nextInt(4);
-      char c = (char) ('a' + chance.nextInt(3));
-      for (int i = 0; i < many; i++) text.append((char) (c + i));
-      text.append(']');
-    } else {
-      text.append(small());
-    }
-  }
-
-  private void branch(StringBuilder text, int deep) {
-    int items = 1 + chance.nextInt(deep == 0 ? 8 : 4);
-    for (int i = 0; i < items && (i == 0 || spotsLeft > 0); i++) {
-      atom(text, deep);
-      int sign = chance.nextInt(deep == 0 ? 12 : 8);
-      if (sign < 3) text.append("*+?".charAt(sign));
-    }
-  }
-
-  private void alternatives(StringBuilder text, int deep) {
-    branch(text, deep);
-    int more = chance.nextInt(3);
-    for (int i = 0; i < more && spotsLeft > 0; i++) {
-      text.append('|');
-      branch(text, deep);
-    }
+  private String pattern() {
+    return texts.pattern(chance.nextInt(8) == 0 ? 26 : 3 + chance.nextInt(20));
   }
 
   private String blanks(boolean some) {
@@ -110,10 +66,7 @@ public final class ModelTest {
       if (chance.nextBoolean()) {
         text.append("doc").append(blanks(true)).append('"').append(doc()).append('"');
       } else {
-        spotsLeft = chance.nextInt(8) == 0 ? 26 : 3 + chance.nextInt(20);
-        text.append("pattern").append(blanks(true)).append('"');
-        alternatives(text, 0);
-        text.append('"');
+        text.append("pattern").append(blanks(true)).append('"').append(pattern()).append('"');
       }
       text.append(blanks(false)).append(';');
     }
@@ -192,9 +145,13 @@ public final class ModelTest {
     return Math.max(1, before);
   }
 
+  private int letter() {
+    return texts.small() - 'a';
+  }
+
   private int anyTriple() {
     if (chance.nextInt(8) == 0) return number(17576);
-    return (small() - 'a') * 676 + (small() - 'a') * 26 + small() - 'a';
+    return letter() * 676 + letter() * 26 + letter();
   }
 
   private String call() {
@@ -266,7 +223,7 @@ public final class ModelTest {
 
   private String laterCall(int d, int p, int place, int what) {
     int t = anyTriple();
-    int letter = chance.nextInt(12) == 0 ? number(26) : small() - 'a';
+    int letter = chance.nextInt(12) == 0 ? number(26) : letter();
     int span = chance.nextInt(4) == 0 ? number(lengthOf(d) + 1) : 1 + chance.nextInt(3);
     calls++;
     gate.many(0);
